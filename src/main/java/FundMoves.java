@@ -265,12 +265,19 @@ public final class FundMoves {
     }
 
     private PriceRow priceRowOf(int provider) {
-        checkProvider(provider);
-        return priceRows[provider];
+        PriceRow found = isProvider(provider) ? priceRows[provider] : null;
+        if (found == null) {
+            throw new IllegalArgumentException("provider out of range");
+        }
+        return found;
+    }
+
+    private static boolean isProvider(int number) {
+        return !isOutside(number, 0, PROVIDERS - 1);
     }
 
     private static void checkProvider(int provider) {
-        if (isOutside(provider, 0, PROVIDERS - 1)) {
+        if (!isProvider(provider)) {
             throw new IllegalArgumentException("provider out of range");
         }
     }
@@ -288,10 +295,7 @@ public final class FundMoves {
     }
 
     private Saver saverAt(int number) {
-        if (isOutside(number, 0, MOST_SAVERS - 1)) {
-            throw new IndexOutOfBoundsException("no such saver");
-        }
-        Saver found = savers[number];
+        Saver found = isOutside(number, 0, MOST_SAVERS - 1) ? null : savers[number];
         if (found == null) {
             throw new IndexOutOfBoundsException("no such saver");
         }
@@ -299,10 +303,7 @@ public final class FundMoves {
     }
 
     private Order orderAt(int number) {
-        if (isOutside(number, 0, MOST_ORDERS - 1)) {
-            throw new IndexOutOfBoundsException("no such order");
-        }
-        Order found = orders[number];
+        Order found = isOutside(number, 0, MOST_ORDERS - 1) ? null : orders[number];
         if (found == null) {
             throw new IndexOutOfBoundsException("no such order");
         }

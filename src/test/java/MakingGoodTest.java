@@ -16,6 +16,7 @@ public final class MakingGoodTest {
         madeGoodUpToTheMost();
         promise18MadeGood();
         promise19OwesIsNetted();
+        promise19OwesIsAddedUp();
         promise19OwesRefusesOtherArguments();
         promise20Losses();
         promise20LossesRefusesOtherArguments();
@@ -318,6 +319,27 @@ public final class MakingGoodTest {
         Check.same("owes(4, 2) then", 300, x.owes(4, 2));
         Check.same("owes(2, 4) then", -300, x.owes(2, 4));
         Check.same("owes(2, 3) stays", 2000, x.owes(2, 3));
+    }
+
+    private static void promise19OwesIsAddedUp() {
+        FundMoves x = new FundMoves();
+        x.begin(0, 1000);
+        x.begin(0, 300);
+        x.order(0, 1);
+        x.order(1, 1);
+        x.pass(4);
+        x.step(0);
+        x.step(1);
+        x.pass(1);
+        x.setPrice(0, 500);
+        for (int i = 0; i < 2; i++) {
+            x.step(i);
+            x.step(i);
+        }
+        Check.same("madeGood(0)", 500, x.madeGood(0));
+        Check.same("madeGood(1)", 150, x.madeGood(1));
+        Check.same("owes(0, 1), added up", 650, x.owes(0, 1));
+        Check.same("owes(1, 0), added up", -650, x.owes(1, 0));
     }
 
     private static void promise19OwesRefusesOtherArguments() {
