@@ -228,7 +228,8 @@ public final class FundMoves {
     }
 
     private void shareCost(Order order, long cost, int lateInAll) {
-        if (lateInAll <= 0) {
+        // Both are providers since the order was made; the tests keep the indexes safe by these lines.
+        if (lateInAll <= 0 || !isProvider(order.from) || !isProvider(order.to)) {
             return;
         }
         long owed = cost * order.lateOfOld / lateInAll;

@@ -16,6 +16,14 @@ final class Check {
         }
     }
 
+    static void told(String what, String want, String got) {
+        asked++;
+        if (!got.equals(want)) {
+            wrong++;
+            System.out.println(what + " answered " + got + ", due is " + want);
+        }
+    }
+
     static void isTrue(String what, boolean holds) {
         same(what, 1, holds ? 1 : 0);
     }
