@@ -87,7 +87,7 @@ public final class FundMoves {
             throw new IllegalArgumentException("money out of range");
         }
         int number = saverCount;
-        if (number >= MOST_SAVERS) {
+        if (isOutside(number, 0, MOST_SAVERS - 1)) {
             throw new IllegalStateException("no more savers");
         }
         savers[number] = new Saver(provider, thousandthsFor(money, row.valueOn(presentDay)));
@@ -131,10 +131,10 @@ public final class FundMoves {
             throw new IllegalStateException("an order of the saver goes on");
         }
         int number = orderCount;
-        if (number >= MOST_ORDERS) {
+        if (isOutside(number, 0, MOST_ORDERS - 1)) {
             throw new IllegalStateException("no more orders");
         }
-        orders[number] = new Order(mover, to, presentDay);
+        orders[number] = new Order(saver, mover.holder, to, presentDay);
         orderCount = number + 1;
         mover.isMoving = true;
         return number;
@@ -200,12 +200,14 @@ public final class FundMoves {
     }
 
     private void sell(Order order, boolean forced) {
-        order.sold = order.mover.thousandths;
+        Saver mover = saverAt(order.saver);
+        order.sold = mover.thousandths;
         order.proceeds = moneyFor(order.sold, forced ? defaultPrice : priceNow(order.from));
-        order.mover.thousandths = 0;
+        mover.thousandths = 0;
     }
 
     private void buy(Order order, int lateBy, boolean forced) {
+        Saver mover = saverAt(order.saver);
         int priceOfNew = priceNow(order.to);
         long bought = thousandthsFor(order.proceeds, forced ? defaultPrice : priceOfNew);
         int lateInAll = order.lateOfOld + lateBy;
@@ -216,7 +218,7 @@ public final class FundMoves {
         checkHolding(bought + lacking);
         shareCost(order, costOf(lacking, priceOfNew), lateInAll);
         order.replaced = lacking;
-        order.mover.arrive(order.to, bought + lacking);
+        mover.arrive(order.to, bought + lacking);
     }
 
     /** What the saver would have by timely steps; asked ahead of the purchase's own booking. */
@@ -323,8 +325,8 @@ public final class FundMoves {
     private static final class PriceRow {
         private final int[] firstDays = new int[MOST_PRICES];
         private final int[] values = new int[MOST_PRICES];
-        // Starts at 0 and stays below MOST_PRICES, so that it is an index of both rows always.
-        private int latest = 0;
+        private int count = 1;
+        private int latestDay = 0;
 
         PriceRow() {
             values[0] = FIRST_PRICE;
@@ -332,23 +334,24 @@ public final class FundMoves {
 
         /** Says false, and changes nothing, if a new price is needed and the row is full. */
         boolean put(int day, int value) {
-            if (firstDays[latest] != day) {
-                if (latest + 1 >= MOST_PRICES) {
-                    return false;
-                }
-                latest++;
-                firstDays[latest] = day;
+            int at = day == latestDay ? count - 1 : count;
+            if (isOutside(at, 0, MOST_PRICES - 1)) {
+                return false;
             }
-            values[latest] = value;
+            firstDays[at] = day;
+            values[at] = value;
+            latestDay = day;
+            count = at + 1;
             return true;
         }
 
         int valueOn(int day) {
-            int at = latest;
-            while (at > 0 && firstDays[at] > day) {
-                at--;
+            int value = FIRST_PRICE;
+            // The count is never above MOST_PRICES; the test keeps the index safe by these lines alone.
+            for (int i = 0; i < count && i < MOST_PRICES && firstDays[i] <= day; i++) {
+                value = values[i];
             }
-            return values[at];
+            return value;
         }
     }
 
@@ -370,7 +373,7 @@ public final class FundMoves {
     }
 
     private static final class Order {
-        private final Saver mover;
+        private final int saver;
         private final int from;
         private final int to;
         private int nextStep = ANSWER;
@@ -381,9 +384,9 @@ public final class FundMoves {
         private long proceeds = 0;
         private long replaced = 0;
 
-        Order(Saver mover, int to, int day) {
-            this.mover = mover;
-            this.from = mover.holder;
+        Order(int saver, int from, int to, int day) {
+            this.saver = saver;
+            this.from = from;
             this.to = to;
             this.lastStepDay = day;
         }

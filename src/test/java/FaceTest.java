@@ -43,7 +43,10 @@ public final class FaceTest {
         methodsOfTheFace();
         constructorsAndFields();
         privateMethodsHaveOtherNames();
-        sourceKeepsToTheLanguage();
+        objectsInsideHoldNoOthers();
+        String source = Files.readString(Path.of(System.getProperty("fundmoves.source")));
+        sourceKeepsToTheLanguage(source);
+        indexesAreLookedAt(source);
         Check.end();
     }
 
@@ -106,11 +109,47 @@ public final class FaceTest {
         }
     }
 
-    private static void sourceKeepsToTheLanguage() throws IOException {
-        String source = Files.readString(Path.of(System.getProperty("fundmoves.source")));
+    /** What one of them does not hold, it can't find missing: references are looked up, with a test against null. */
+    private static void objectsInsideHoldNoOthers() {
+        for (Class<?> inside : FundMoves.class.getDeclaredClasses()) {
+            for (Field field : inside.getDeclaredFields()) {
+                boolean isRow = field.getType().isArray() && field.getType().getComponentType().isPrimitive()
+                        && Modifier.isFinal(field.getModifiers());
+                Check.isTrue(inside.getSimpleName() + "." + field.getName() + " is a number or a row of numbers",
+                        field.getType().isPrimitive() || isRow);
+            }
+        }
+    }
+
+    private static void sourceKeepsToTheLanguage(String source) {
         for (String pattern : RULED_OUT) {
             Matcher found = Pattern.compile(pattern).matcher(source);
             Check.isTrue("no " + pattern + " in the source", !found.find());
         }
+        Check.isTrue("the source's signs are 1 to 127", source.chars().allMatch(sign -> sign > 0 && sign < 128));
+    }
+
+    /** Each index that is no written number has a test ahead of it, in the method that uses it. */
+    private static void indexesAreLookedAt(String source) {
+        Pattern use = Pattern.compile("(?<!new )\\b(?:[a-z]\\w*)(?:\\[[^\\]]*\\])*\\[([a-z][\\w.]*)\\]");
+        int uses = 0;
+        for (String method : source.split("\n    }\n|\n        }\n(?=\n        \\S)")) {
+            Matcher found = use.matcher(method);
+            for (int from = 0; found.find(from); from = found.start() + 1) {
+                String[] indexes = found.group().substring(found.group().indexOf('[') + 1).split("\\]\\[|\\]");
+                for (String index : indexes) {
+                    uses++;
+                    Check.isTrue(found.group() + " is used behind a test of " + index,
+                            isLookedAt(index, method.substring(0, found.start())));
+                }
+            }
+        }
+        Check.isTrue("indexes are found in the source", uses >= 10);
+    }
+
+    private static boolean isLookedAt(String index, String ahead) {
+        String name = Pattern.quote(index);
+        return Pattern.compile("(isOutside\\(" + name + ",|(isProvider|checkProvider)\\(" + name + "\\)|\\b"
+                + name + " < [A-Z_]+\\b)").matcher(ahead).find();
     }
 }
